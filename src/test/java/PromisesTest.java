@@ -25,6 +25,7 @@ public final class PromisesTest {
         reassignChoosesNearest();
         reassignFull();
         reassignWithoutPower();
+        reassignAfterCuts();
         spoil();
         cutAfter();
         start();
@@ -218,6 +219,9 @@ public final class PromisesTest {
         CHECKS.same("format is cut: not reached", d.read(2, 0), 3);
         d.cutAfter(177);
         CHECKS.same("format is cut before the mark", d.format(), DefectDrive.OFF);
+        d.cutAfter(500);
+        CHECKS.same("format when it is off", d.format(), DefectDrive.OFF);
+        CHECKS.told("format when it is off", d, 143, 1, 0, 0, 178 + 2 + 2 + 177, 1, 0, 500);
         CHECKS.same("format is cut before the mark: start", d.start(), 1);
         CHECKS.same("format: version again", d.format(), 143);
         CHECKS.same("format: version one more than that in force", d.told(1), 2);
@@ -356,6 +360,14 @@ public final class PromisesTest {
         CHECKS.same("lost words: weak is DONE", d.reassign(0), DefectDrive.DONE);
         noSuchElement("lost words: one stays lost", () -> d.read(0, 0));
         CHECKS.same("lost words: the other is there", d.read(0, 1), 11);
+
+        d.spoil(17, false);
+        d.reassign(1);
+        d.write(1, 0, 12);
+        d.spoil(d.physical(1), true);
+        CHECKS.same("lost words: weak is DONE again", d.reassign(1), DefectDrive.DONE);
+        CHECKS.same("lost words: the first is there", d.read(1, 0), 12);
+        noSuchElement("lost words: the second stays lost", () -> d.read(1, 1));
     }
 
     private static void reassignChoosesNearest() {
@@ -467,6 +479,29 @@ public final class PromisesTest {
         CHECKS.same("reassign: off before healthy", d.reassign(1), DefectDrive.OFF);
         CHECKS.same("reassign: off before full", d.reassign(0), DefectDrive.OFF);
         outOfBounds("reassign: exceptions before OFF", () -> d.reassign(143));
+    }
+
+    /** What a cut call had wanted to write must not come up in a later one. */
+    private static void reassignAfterCuts() {
+        DefectDrive d = new DefectDrive();
+        d.factory(40);
+        d.format();
+        d.spoil(16, true);
+        d.cutAfter(3);
+        CHECKS.same("after cuts: reassign is cut", d.reassign(0), DefectDrive.OFF);
+        d.start();
+        d.spoil(50, true);
+        d.cutAfter(176);
+        CHECKS.same("after cuts: format is cut", d.format(), DefectDrive.OFF);
+        d.start();
+        d.spoil(32, true);
+        CHECKS.same("after cuts: another one", d.reassign(13), DefectDrive.DONE);
+        CHECKS.told("after cuts", d, 142, 2, 1, 1);
+        pair(d, 0, 32, 45);
+        CHECKS.same("after cuts: primary", d.primary(0), 40);
+        CHECKS.same("after cuts: the first one", d.reassign(0), DefectDrive.DONE);
+        pair(d, 0, 32, 45);
+        pair(d, 1, 16, 29);
     }
 
     // Promise 7
