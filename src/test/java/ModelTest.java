@@ -1,10 +1,14 @@
 import java.util.Random;
 import java.util.function.IntSupplier;
 
-/** Mixed runs of 512 calls, the same ones every time, on DefectDrive and on PlainDrive. */
+/**
+ * Mixed runs of 512 calls at most, the same ones every time, on DefectDrive and on PlainDrive. What
+ * comes behind the mixed calls looks at the whole drive; one run cannot see all of it in 512 calls.
+ */
 public final class ModelTest {
-    private static final int RUNS = 300;
-    private static final int CALLS = 512;
+    private static final int RUNS = 700;
+    private static final int MOST_CALLS = 512;
+    private static final int[] CALLS_OF_LOOK = {0, 192, 192, 192, 192, 192, 300};
     private static final Checks CHECKS = new Checks();
     private static final int[] FAR = {-1, -2, 2, 8, 12, 15, 16, 20, 48, 143, 191, 192,
         Integer.MIN_VALUE, Integer.MAX_VALUE};
@@ -15,6 +19,7 @@ public final class ModelTest {
     private final int run;
     private final int spoiling;
     private final int cutting;
+    private int calls = 0;
 
     private ModelTest(int run) {
         this.run = run;
@@ -26,11 +31,13 @@ public final class ModelTest {
     public static void main(String[] args) {
         for (int run = 0; run < RUNS; run++) {
             ModelTest test = new ModelTest(run);
+            int kind = run % CALLS_OF_LOOK.length;
             test.begin();
-            for (int call = 0; call < CALLS; call++) {
+            while (test.calls < MOST_CALLS - CALLS_OF_LOOK[kind]) {
                 test.one();
             }
-            test.lookAtAll();
+            test.lookAtAll(kind);
+            CHECKS.same("run " + run + ": calls", test.calls, MOST_CALLS);
         }
         CHECKS.end();
     }
@@ -96,17 +103,28 @@ public final class ModelTest {
         }
     }
 
-    /** All that can be looked at without a change, once at the end of a run. */
-    private void lookAtAll() {
+    private void lookAtAll(int kind) {
+        if (kind == 0) {
+            return;
+        }
+        if (kind == 6) {
+            lookAtLists();
+            return;
+        }
         for (int k = 0; k < 192; k++) {
             int x = k;
-            both("physical " + x, () -> drive.physical(x), () -> plain.physical(x));
-            both("logical " + x, () -> drive.logical(x), () -> plain.logical(x));
-            both("state " + x, () -> drive.state(x), () -> plain.state(x));
-            both("first word " + x, () -> drive.read(x, 0), () -> plain.read(x, 0));
-            both("second word " + x, () -> drive.read(x, 1), () -> plain.read(x, 1));
+            switch (kind) {
+                case 1 -> both("physical " + x, () -> drive.physical(x), () -> plain.physical(x));
+                case 2 -> both("logical " + x, () -> drive.logical(x), () -> plain.logical(x));
+                case 3 -> both("state " + x, () -> drive.state(x), () -> plain.state(x));
+                case 4 -> both("first word " + x, () -> drive.read(x, 0), () -> plain.read(x, 0));
+                default -> both("second word " + x, () -> drive.read(x, 1), () -> plain.read(x, 1));
+            }
         }
-        for (int k = -1; k <= 48; k++) {
+    }
+
+    private void lookAtLists() {
+        for (int k = -1; k < 49; k++) {
             int x = k;
             both("spares " + x, () -> drive.spares(x), () -> plain.spares(x));
             both("grown " + x, () -> drive.grown(x, false), () -> plain.grown(x, false));
@@ -165,20 +183,13 @@ public final class ModelTest {
     }
 
     private void both(String call, IntSupplier real, IntSupplier model) {
-        String got = answer(real);
-        String due = answer(model);
+        calls++;
+        String got = Looks.answer(real);
+        String due = Looks.answer(model);
         if (due.endsWith("IndexOutOfBoundsException")) {
             // The library's lists throw a subclass in the model; the drive must throw the very class.
             due = "IndexOutOfBoundsException";
         }
         CHECKS.holds("run " + run + ": " + call + ": answer " + got + ", due is " + due, got.equals(due));
-    }
-
-    private static String answer(IntSupplier call) {
-        try {
-            return Integer.toString(call.getAsInt());
-        } catch (RuntimeException e) {
-            return e.getClass().getSimpleName();
-        }
     }
 }

@@ -1,6 +1,3 @@
-import java.util.NoSuchElementException;
-import java.util.function.IntSupplier;
-
 /** One method a promise: ordinary inputs, the edges that the document names, wrong inputs. */
 public final class PromisesTest {
     private static final int MIN = Integer.MIN_VALUE;
@@ -52,13 +49,13 @@ public final class PromisesTest {
         for (int cylinder = 1; cylinder < 12; cylinder++) {
             CHECKS.same("new: spares(" + cylinder + ")", d.spares(cylinder), 3);
         }
-        outOfBounds("new: write", () -> d.write(0, 0, 1));
-        outOfBounds("new: read", () -> d.read(0, 0));
-        outOfBounds("new: reassign", () -> d.reassign(0));
-        outOfBounds("new: physical", () -> d.physical(0));
-        outOfBounds("new: seeks", () -> d.seeks(0, 1));
-        outOfBounds("new: grown", () -> d.grown(0, false));
-        outOfBounds("new: primary", () -> d.primary(0));
+        CHECKS.outOfBounds("new: write", () -> d.write(0, 0, 1));
+        CHECKS.outOfBounds("new: read", () -> d.read(0, 0));
+        CHECKS.outOfBounds("new: reassign", () -> d.reassign(0));
+        CHECKS.outOfBounds("new: physical", () -> d.physical(0));
+        CHECKS.outOfBounds("new: seeks", () -> d.seeks(0, 1));
+        CHECKS.outOfBounds("new: grown", () -> d.grown(0, false));
+        CHECKS.outOfBounds("new: primary", () -> d.primary(0));
     }
 
     // Promise 2
@@ -73,18 +70,18 @@ public final class PromisesTest {
         CHECKS.same("factory: state stays", d.state(16), DefectDrive.GOOD);
         CHECKS.same("factory: spares stay before format", d.spares(1), 3);
         for (int sector : NOT_SECTORS) {
-            outOfBounds("factory: " + sector, () -> d.factory(sector));
+            CHECKS.outOfBounds("factory: " + sector, () -> d.factory(sector));
         }
-        illegalArgument("factory: cylinder 0", () -> d.factory(0));
-        illegalArgument("factory: end of cylinder 0", () -> d.factory(15));
-        illegalArgument("factory: twice", () -> d.factory(16));
+        CHECKS.illegalArgument("factory: cylinder 0", () -> d.factory(0));
+        CHECKS.illegalArgument("factory: end of cylinder 0", () -> d.factory(15));
+        CHECKS.illegalArgument("factory: twice", () -> d.factory(16));
         CHECKS.same("factory: throws change nothing", d.told(6), 3);
         d.cutAfter(0);
         CHECKS.same("factory: format is cut", d.format(), DefectDrive.OFF);
         CHECKS.same("factory: after a format that was cut", d.factory(17), 4);
         d.start();
         CHECKS.same("factory: format", d.format(), 141);
-        illegalState("factory: after format", () -> d.factory(18));
+        CHECKS.illegalState("factory: after format", () -> d.factory(18));
         CHECKS.same("factory: still", d.told(6), 4);
     }
 
@@ -92,16 +89,16 @@ public final class PromisesTest {
         DefectDrive d = new DefectDrive();
         d.factory(20);
         d.format();
-        outOfBounds("factory order: no sector", () -> d.factory(192));
-        illegalArgument("factory order: cylinder 0", () -> d.factory(3));
-        illegalArgument("factory order: one already", () -> d.factory(20));
-        illegalState("factory order: formatted", () -> d.factory(21));
+        CHECKS.outOfBounds("factory order: no sector", () -> d.factory(192));
+        CHECKS.illegalArgument("factory order: cylinder 0", () -> d.factory(3));
+        CHECKS.illegalArgument("factory order: one already", () -> d.factory(20));
+        CHECKS.illegalState("factory order: formatted", () -> d.factory(21));
         d.spoil(16, true);
         d.cutAfter(0);
         CHECKS.same("factory order: later format is cut", d.format(), DefectDrive.OFF);
-        illegalState("factory order: formatted before a cut", () -> d.factory(21));
+        CHECKS.illegalState("factory order: formatted before a cut", () -> d.factory(21));
         d.start();
-        illegalState("factory order: formatted before a start", () -> d.factory(21));
+        CHECKS.illegalState("factory order: formatted before a start", () -> d.factory(21));
     }
 
     // Promise 3
@@ -127,7 +124,7 @@ public final class PromisesTest {
         d.format();
         d.spoil(16, false);
         d.reassign(0);
-        noSuchElement("format: lost before", () -> d.read(0, 0));
+        CHECKS.noSuchElement("format: lost before", () -> d.read(0, 0));
         d.format();
         for (int logical = 0; logical < 142; logical++) {
             CHECKS.same("format: not lost " + logical, d.read(logical, 0) | d.read(logical, 1), 0);
@@ -145,7 +142,7 @@ public final class PromisesTest {
         d.spoil(20, false);
         d.spoil(190, true);
         CHECKS.same("format collects: capacity", d.format(), 141);
-        sectorsOfPrimary(d, 20, 29, 100, 190);
+        CHECKS.primaries("formatCollectsDefects", d, 20, 29, 100, 190);
         CHECKS.same("format collects: writes", d.told(4), 174 + 3);
         d.spoil(16, true);
         CHECKS.same("format collects: reassign", d.reassign(0), DefectDrive.DONE);
@@ -153,17 +150,9 @@ public final class PromisesTest {
         d.spoil(30, false);
         d.spoil(60, true);
         CHECKS.same("format collects: capacity again", d.format(), 139);
-        sectorsOfPrimary(d, 16, 20, 29, 30, 60, 100, 190);
+        CHECKS.primaries("formatCollectsDefects", d, 16, 20, 29, 30, 60, 100, 190);
         CHECKS.told("format collects", d, 139, 3, 0, 7);
-        outOfBounds("format collects: no pairs", () -> d.grown(0, false));
-    }
-
-    private static void sectorsOfPrimary(DefectDrive d, int... due) {
-        CHECKS.same("primary: how many", d.told(3), due.length);
-        for (int k = 0; k < due.length; k++) {
-            CHECKS.same("primary(" + k + ")", d.primary(k), due[k]);
-        }
-        outOfBounds("primary: behind the last", () -> d.primary(due.length));
+        CHECKS.outOfBounds("format collects: no pairs", () -> d.grown(0, false));
     }
 
     private static void formatWithTooManyEntries() {
@@ -176,20 +165,20 @@ public final class PromisesTest {
         CHECKS.told("48 entries", d, 104, 1, 0, 48, 175 + 1 + 6 + 1, 0, 48, -1);
         d.write(0, 0, 9);
         d.spoil(80, true);
-        illegalState("49 entries", d::format);
+        CHECKS.illegalState("49 entries", d::format);
         CHECKS.told("49 entries", d, 104, 1, 0, 48, 184, 0, 48, -1);
         CHECKS.same("49 entries: the word stays", d.read(0, 0), 9);
         CHECKS.same("49 entries: no pair has room", d.reassign(13), DefectDrive.FULL);
         d.cutAfter(0);
         d.write(0, 0, 10);
-        illegalState("49 entries: before OFF", d::format);
+        CHECKS.illegalState("49 entries: before OFF", d::format);
 
         DefectDrive f = new DefectDrive();
         for (int sector = 16; sector < 192; sector++) {
             f.factory(sector);
         }
         CHECKS.same("all are factory defects", f.told(6), 176);
-        illegalState("176 entries", f::format);
+        CHECKS.illegalState("176 entries", f::format);
         CHECKS.told("176 entries", f, 0, 0, 0, 0, 0, 0, 176, -1);
     }
 
@@ -246,13 +235,13 @@ public final class PromisesTest {
         d.spoil(17, false);
         CHECKS.same("write: bad", d.write(1, 0, 3), DefectDrive.DAMAGED);
         CHECKS.same("write: damaged ones are not counted", d.told(4), 181);
-        outOfBounds("write: below", () -> d.write(-1, 0, 0));
-        outOfBounds("write: above", () -> d.write(143, 0, 0));
-        outOfBounds("write: far below", () -> d.write(MIN, 0, 0));
-        outOfBounds("write: far above", () -> d.write(MAX, 0, 0));
-        outOfBounds("write: word below", () -> d.write(0, -1, 0));
-        outOfBounds("write: word above", () -> d.write(0, 2, 0));
-        outOfBounds("write: word of a damaged one", () -> d.write(1, 2, 0));
+        CHECKS.outOfBounds("write: below", () -> d.write(-1, 0, 0));
+        CHECKS.outOfBounds("write: above", () -> d.write(143, 0, 0));
+        CHECKS.outOfBounds("write: far below", () -> d.write(MIN, 0, 0));
+        CHECKS.outOfBounds("write: far above", () -> d.write(MAX, 0, 0));
+        CHECKS.outOfBounds("write: word below", () -> d.write(0, -1, 0));
+        CHECKS.outOfBounds("write: word above", () -> d.write(0, 2, 0));
+        CHECKS.outOfBounds("write: word of a damaged one", () -> d.write(1, 2, 0));
     }
 
     private static void writeWithoutPower() {
@@ -267,8 +256,8 @@ public final class PromisesTest {
         CHECKS.same("write: cut", d.write(0, 0, 5), DefectDrive.OFF);
         CHECKS.same("write: power is off", d.told(5), 1);
         CHECKS.same("write: damaged when it is off", d.write(1, 0, 4), DefectDrive.OFF);
-        outOfBounds("write: exceptions before OFF", () -> d.write(143, 0, 0));
-        outOfBounds("write: word exceptions before OFF", () -> d.write(0, 2, 0));
+        CHECKS.outOfBounds("write: exceptions before OFF", () -> d.write(143, 0, 0));
+        CHECKS.outOfBounds("write: word exceptions before OFF", () -> d.write(0, 2, 0));
         d.cutAfter(-1);
         CHECKS.same("write: cutAfter brings no power", d.write(0, 0, 5), DefectDrive.OFF);
         d.start();
@@ -287,19 +276,19 @@ public final class PromisesTest {
         d.spoil(19, true);
         CHECKS.same("read: weak", d.read(3, 1), 31);
         d.spoil(19, false);
-        illegalState("read: bad", () -> d.read(3, 1));
+        CHECKS.illegalState("read: bad", () -> d.read(3, 1));
         d.reassign(3);
-        noSuchElement("read: lost word 0", () -> d.read(3, 0));
-        noSuchElement("read: lost word 1", () -> d.read(3, 1));
+        CHECKS.noSuchElement("read: lost word 0", () -> d.read(3, 0));
+        CHECKS.noSuchElement("read: lost word 1", () -> d.read(3, 1));
         d.write(3, 0, 32);
         CHECKS.same("read: no more lost", d.read(3, 0), 32);
-        noSuchElement("read: the other is lost still", () -> d.read(3, 1));
+        CHECKS.noSuchElement("read: the other is lost still", () -> d.read(3, 1));
         CHECKS.same("read: last", d.read(142, 1), 0);
         for (int logical : new int[] {-1, 143, MIN, MAX}) {
-            outOfBounds("read: " + logical, () -> d.read(logical, 0));
+            CHECKS.outOfBounds("read: " + logical, () -> d.read(logical, 0));
         }
         for (int i : new int[] {-1, 2, MIN, MAX}) {
-            outOfBounds("read: word " + i, () -> d.read(0, i));
+            CHECKS.outOfBounds("read: word " + i, () -> d.read(0, i));
         }
         CHECKS.same("read: is no sector write", d.told(4), 178 + 2 + 4 + 1);
     }
@@ -310,13 +299,13 @@ public final class PromisesTest {
         d.spoil(16, false);
         d.reassign(0);
         d.spoil(29, false);
-        illegalState("read order: bad before lost", () -> d.read(0, 0));
+        CHECKS.illegalState("read order: bad before lost", () -> d.read(0, 0));
         d.cutAfter(0);
         d.write(1, 0, 0);
-        throwing("read order: off before bad", UnsupportedOperationException.class, () -> d.read(0, 0));
-        throwing("read order: off", UnsupportedOperationException.class, () -> d.read(1, 0));
-        outOfBounds("read order: bounds before off", () -> d.read(143, 0));
-        outOfBounds("read order: word before off", () -> d.read(0, 2));
+        CHECKS.unsupported("read order: off before bad", () -> d.read(0, 0));
+        CHECKS.unsupported("read order: off", () -> d.read(1, 0));
+        CHECKS.outOfBounds("read order: bounds before off", () -> d.read(143, 0));
+        CHECKS.outOfBounds("read order: word before off", () -> d.read(0, 2));
     }
 
     // Promise 6
@@ -338,15 +327,15 @@ public final class PromisesTest {
         d.spoil(16, false);
         CHECKS.same("reassign: bad", d.reassign(0), DefectDrive.DAMAGED);
         CHECKS.same("reassign: next place", d.physical(0), 30);
-        noSuchElement("reassign: lost", () -> d.read(0, 0));
+        CHECKS.noSuchElement("reassign: lost", () -> d.read(0, 0));
         d.spoil(29, true);
         CHECKS.same("reassign: again", d.reassign(2), DefectDrive.DONE);
         CHECKS.told("reassign: again", d, 143, 4, 2, 0, 192);
-        pair(d, 0, 18, 31);
-        pair(d, 1, 16, 30);
+        CHECKS.pair("reassign", d, 0, 18, 31);
+        CHECKS.pair("reassign", d, 1, 16, 30);
         CHECKS.same("reassign: words go along again", d.read(2, 1), 21);
         for (int logical : new int[] {-1, 143, MIN, MAX}) {
-            outOfBounds("reassign: " + logical, () -> d.reassign(logical));
+            CHECKS.outOfBounds("reassign: " + logical, () -> d.reassign(logical));
         }
     }
 
@@ -358,7 +347,7 @@ public final class PromisesTest {
         d.write(0, 1, 11);
         d.spoil(29, true);
         CHECKS.same("lost words: weak is DONE", d.reassign(0), DefectDrive.DONE);
-        noSuchElement("lost words: one stays lost", () -> d.read(0, 0));
+        CHECKS.noSuchElement("lost words: one stays lost", () -> d.read(0, 0));
         CHECKS.same("lost words: the other is there", d.read(0, 1), 11);
 
         d.spoil(17, false);
@@ -367,14 +356,14 @@ public final class PromisesTest {
         d.spoil(d.physical(1), true);
         CHECKS.same("lost words: weak is DONE again", d.reassign(1), DefectDrive.DONE);
         CHECKS.same("lost words: the first is there", d.read(1, 0), 12);
-        noSuchElement("lost words: the second stays lost", () -> d.read(1, 1));
+        CHECKS.noSuchElement("lost words: the second stays lost", () -> d.read(1, 1));
     }
 
     private static void reassignChoosesNearest() {
         DefectDrive d = new DefectDrive();
         d.factory(93);
         d.format();
-        spoilSpares(d, 4);
+        Drives.spoilSpares(d, 4);
         d.spoil(64, true);
         d.reassign(39);
         CHECKS.same("nearest: the lower of two cylinders", d.physical(39), 61);
@@ -394,17 +383,11 @@ public final class PromisesTest {
         CHECKS.same("nearest: last cylinder", d.physical(130), 189);
     }
 
-    private static void spoilSpares(DefectDrive d, int cylinder) {
-        for (int k = 13; k < 16; k++) {
-            d.spoil(cylinder * 16 + k, true);
-        }
-    }
-
     private static void reassignFull() {
         DefectDrive d = new DefectDrive();
         d.format();
         for (int cylinder = 1; cylinder < 12; cylinder++) {
-            spoilSpares(d, cylinder);
+            Drives.spoilSpares(d, cylinder);
         }
         d.spoil(16, false);
         CHECKS.same("no spare", d.reassign(0), DefectDrive.FULL);
@@ -470,7 +453,7 @@ public final class PromisesTest {
         CHECKS.same("reassign: healthy needs no power", d.reassign(0), DefectDrive.HEALTHY);
         CHECKS.same("reassign: power is on still", d.told(5), 0);
         for (int cylinder = 1; cylinder < 12; cylinder++) {
-            spoilSpares(d, cylinder);
+            Drives.spoilSpares(d, cylinder);
         }
         d.spoil(16, true);
         CHECKS.same("reassign: full needs no power", d.reassign(0), DefectDrive.FULL);
@@ -478,7 +461,7 @@ public final class PromisesTest {
         d.write(1, 0, 1);
         CHECKS.same("reassign: off before healthy", d.reassign(1), DefectDrive.OFF);
         CHECKS.same("reassign: off before full", d.reassign(0), DefectDrive.OFF);
-        outOfBounds("reassign: exceptions before OFF", () -> d.reassign(143));
+        CHECKS.outOfBounds("reassign: exceptions before OFF", () -> d.reassign(143));
     }
 
     /** What a cut call had wanted to write must not come up in a later one. */
@@ -497,11 +480,11 @@ public final class PromisesTest {
         d.spoil(32, true);
         CHECKS.same("after cuts: another one", d.reassign(13), DefectDrive.DONE);
         CHECKS.told("after cuts", d, 142, 2, 1, 1);
-        pair(d, 0, 32, 45);
+        CHECKS.pair("reassignAfterCuts", d, 0, 32, 45);
         CHECKS.same("after cuts: primary", d.primary(0), 40);
         CHECKS.same("after cuts: the first one", d.reassign(0), DefectDrive.DONE);
-        pair(d, 0, 32, 45);
-        pair(d, 1, 16, 29);
+        CHECKS.pair("reassignAfterCuts", d, 0, 32, 45);
+        CHECKS.pair("reassignAfterCuts", d, 1, 16, 29);
     }
 
     // Promise 7
@@ -520,10 +503,10 @@ public final class PromisesTest {
         CHECKS.same("spoil: good to bad", d.spoil(191, false), DefectDrive.GOOD);
         CHECKS.same("spoil: last is bad", d.state(191), DefectDrive.BAD);
         for (int sector : NOT_SECTORS) {
-            outOfBounds("spoil: " + sector, () -> d.spoil(sector, true));
+            CHECKS.outOfBounds("spoil: " + sector, () -> d.spoil(sector, true));
         }
-        illegalArgument("spoil: cylinder 0", () -> d.spoil(0, true));
-        illegalArgument("spoil: end of cylinder 0", () -> d.spoil(15, false));
+        CHECKS.illegalArgument("spoil: cylinder 0", () -> d.spoil(0, true));
+        CHECKS.illegalArgument("spoil: end of cylinder 0", () -> d.spoil(15, false));
         CHECKS.same("spoil: cylinder 0 is good", d.state(15), DefectDrive.GOOD);
         d.cutAfter(0);
         d.format();
@@ -539,8 +522,8 @@ public final class PromisesTest {
         CHECKS.same("cutAfter: 2", d.cutAfter(2), 2);
         CHECKS.same("cutAfter: first write", d.write(0, 0, 1), DefectDrive.DONE);
         CHECKS.same("cutAfter: one left", d.told(7), 1);
-        illegalArgument("cutAfter: -2", () -> d.cutAfter(-2));
-        illegalArgument("cutAfter: far below", () -> d.cutAfter(MIN));
+        CHECKS.illegalArgument("cutAfter: -2", () -> d.cutAfter(-2));
+        CHECKS.illegalArgument("cutAfter: far below", () -> d.cutAfter(MIN));
         CHECKS.same("cutAfter: throws change nothing", d.told(7), 1);
         CHECKS.same("cutAfter: second write", d.write(0, 0, 2), DefectDrive.DONE);
         CHECKS.same("cutAfter: none left", d.told(7), 0);
@@ -603,7 +586,7 @@ public final class PromisesTest {
         d.write(0, 0, 0);
         CHECKS.same("physical: without power", d.physical(0), 29);
         for (int logical : new int[] {-1, 141, MIN, MAX}) {
-            outOfBounds("physical: " + logical, () -> d.physical(logical));
+            CHECKS.outOfBounds("physical: " + logical, () -> d.physical(logical));
         }
     }
 
@@ -633,7 +616,7 @@ public final class PromisesTest {
         CHECKS.same("logical: not back", d.logical(17), DefectDrive.NONE);
         CHECKS.same("logical: moved to another", d.logical(30), 0);
         for (int sector : NOT_SECTORS) {
-            outOfBounds("logical: " + sector, () -> d.logical(sector));
+            CHECKS.outOfBounds("logical: " + sector, () -> d.logical(sector));
         }
     }
 
@@ -655,7 +638,7 @@ public final class PromisesTest {
         d.spoil(189, false);
         CHECKS.same("spares: one is bad", d.spares(11), 2);
         for (int cylinder : new int[] {-1, 0, 12, MIN, MAX}) {
-            outOfBounds("spares: " + cylinder, () -> d.spares(cylinder));
+            CHECKS.outOfBounds("spares: " + cylinder, () -> d.spares(cylinder));
         }
     }
 
@@ -669,28 +652,23 @@ public final class PromisesTest {
         d.reassign(d.logical(100));
         d.spoil(16, true);
         d.reassign(0);
-        pair(d, 0, 100, 109);
-        pair(d, 1, 16, 29);
+        CHECKS.pair("grown", d, 0, 100, 109);
+        CHECKS.pair("grown", d, 1, 16, 29);
         d.spoil(109, true);
         d.reassign(d.logical(109));
-        pair(d, 0, 100, 110);
-        pair(d, 1, 16, 29);
+        CHECKS.pair("grown", d, 0, 100, 110);
+        CHECKS.pair("grown", d, 1, 16, 29);
         for (int k : new int[] {-1, 2, MIN, MAX}) {
-            outOfBounds("grown: " + k, () -> d.grown(k, true));
-            outOfBounds("grown: " + k, () -> d.grown(k, false));
+            CHECKS.outOfBounds("grown: " + k, () -> d.grown(k, true));
+            CHECKS.outOfBounds("grown: " + k, () -> d.grown(k, false));
         }
         d.cutAfter(2);
         d.spoil(18, true);
         d.reassign(d.logical(18));
         CHECKS.same("grown: cut", d.told(2), 2);
-        pair(d, 0, 100, 110);
+        CHECKS.pair("grown", d, 0, 100, 110);
         d.start();
-        pair(d, 1, 16, 29);
-    }
-
-    private static void pair(DefectDrive d, int k, int first, int spare) {
-        CHECKS.same("grown(" + k + ", false)", d.grown(k, false), first);
-        CHECKS.same("grown(" + k + ", true)", d.grown(k, true), spare);
+        CHECKS.pair("grown", d, 1, 16, 29);
     }
 
     // Promise 14
@@ -700,20 +678,20 @@ public final class PromisesTest {
         d.factory(150);
         d.factory(30);
         d.format();
-        sectorsOfPrimary(d, 30, 150);
+        CHECKS.primaries("primary", d, 30, 150);
         d.spoil(16, true);
         d.reassign(0);
-        sectorsOfPrimary(d, 30, 150);
+        CHECKS.primaries("primary", d, 30, 150);
         for (int k : new int[] {-1, 2, MIN, MAX}) {
-            outOfBounds("primary: " + k, () -> d.primary(k));
+            CHECKS.outOfBounds("primary: " + k, () -> d.primary(k));
         }
         d.cutAfter(177);
         CHECKS.same("primary: format is cut", d.format(), DefectDrive.OFF);
-        sectorsOfPrimary(d, 30, 150);
+        CHECKS.primaries("primary", d, 30, 150);
         d.start();
-        sectorsOfPrimary(d, 30, 150);
+        CHECKS.primaries("primary", d, 30, 150);
         d.format();
-        sectorsOfPrimary(d, 16, 30, 150);
+        CHECKS.primaries("primary", d, 16, 30, 150);
     }
 
     // Promise 15
@@ -730,22 +708,22 @@ public final class PromisesTest {
         d.spoil(20, true);
         d.reassign(4);
         CHECKS.same("seeks: spare in the same cylinder", d.seeks(0, 13), 0);
-        spoilSpares(d, 1);
+        Drives.spoilSpares(d, 1);
         d.reassign(4);
         CHECKS.same("seeks: to another cylinder and back", d.seeks(0, 13), 2);
         CHECKS.same("seeks: from there", d.seeks(4, 2), 1);
         CHECKS.same("seeks: up to there", d.seeks(0, 5), 1);
-        outOfBounds("seeks: n is 0", () -> d.seeks(0, 0));
-        outOfBounds("seeks: n is below", () -> d.seeks(5, -1));
-        outOfBounds("seeks: n is far below", () -> d.seeks(5, MIN));
-        outOfBounds("seeks: too many", () -> d.seeks(0, 144));
-        outOfBounds("seeks: too many from the last", () -> d.seeks(142, 2));
-        outOfBounds("seeks: behind the last", () -> d.seeks(143, 1));
-        outOfBounds("seeks: from below", () -> d.seeks(-1, 1));
-        outOfBounds("seeks: from below, of more", () -> d.seeks(-1, 5));
-        outOfBounds("seeks: wrap-around", () -> d.seeks(1, MAX));
-        outOfBounds("seeks: wrap-around from", () -> d.seeks(MAX, MAX));
-        outOfBounds("seeks: wrap-around below", () -> d.seeks(MIN, MAX));
+        CHECKS.outOfBounds("seeks: n is 0", () -> d.seeks(0, 0));
+        CHECKS.outOfBounds("seeks: n is below", () -> d.seeks(5, -1));
+        CHECKS.outOfBounds("seeks: n is far below", () -> d.seeks(5, MIN));
+        CHECKS.outOfBounds("seeks: too many", () -> d.seeks(0, 144));
+        CHECKS.outOfBounds("seeks: too many from the last", () -> d.seeks(142, 2));
+        CHECKS.outOfBounds("seeks: behind the last", () -> d.seeks(143, 1));
+        CHECKS.outOfBounds("seeks: from below", () -> d.seeks(-1, 1));
+        CHECKS.outOfBounds("seeks: from below, of more", () -> d.seeks(-1, 5));
+        CHECKS.outOfBounds("seeks: wrap-around", () -> d.seeks(1, MAX));
+        CHECKS.outOfBounds("seeks: wrap-around from", () -> d.seeks(MAX, MAX));
+        CHECKS.outOfBounds("seeks: wrap-around below", () -> d.seeks(MIN, MAX));
     }
 
     // Promise 16
@@ -764,7 +742,7 @@ public final class PromisesTest {
         CHECKS.same("state: first", d.state(0), DefectDrive.GOOD);
         CHECKS.same("state: last", d.state(191), DefectDrive.GOOD);
         for (int sector : NOT_SECTORS) {
-            outOfBounds("state: " + sector, () -> d.state(sector));
+            CHECKS.outOfBounds("state: " + sector, () -> d.state(sector));
         }
     }
 
@@ -785,25 +763,5 @@ public final class PromisesTest {
         CHECKS.told("told when off", d, 142, 2, 1, 1, 179 + 4 + 6, 1, 1, 0);
         d.start();
         CHECKS.told("told after start", d, 142, 2, 1, 1, 179 + 4 + 6, 0, 1, -1);
-    }
-
-    private static void throwing(String what, Class<? extends RuntimeException> due, IntSupplier call) {
-        CHECKS.throwing(what, due, call);
-    }
-
-    private static void outOfBounds(String what, IntSupplier call) {
-        throwing(what, IndexOutOfBoundsException.class, call);
-    }
-
-    private static void illegalArgument(String what, IntSupplier call) {
-        throwing(what, IllegalArgumentException.class, call);
-    }
-
-    private static void illegalState(String what, IntSupplier call) {
-        throwing(what, IllegalStateException.class, call);
-    }
-
-    private static void noSuchElement(String what, IntSupplier call) {
-        throwing(what, NoSuchElementException.class, call);
     }
 }
