@@ -16,6 +16,7 @@ public final class BoundariesTest {
         factoryAfterFormatWithoutCapacity();
         formatTriesAllInOrder();
         formatWritesGoodOnesOnly();
+        formatLeavesOthersAlone();
         formatEndsLostWords();
         formatVersions();
         formatPrimaries();
@@ -34,6 +35,7 @@ public final class BoundariesTest {
         readBad();
         readLost();
         reassignTakesTheNearest();
+        reassignCountsFromThePlace();
         reassignTakesTheLowerOfTwo();
         reassignTakesTheLeast();
         reassignPassesOver();
@@ -47,6 +49,7 @@ public final class BoundariesTest {
         reassignFullOfPairs();
         reassignFullOfEntries();
         reassignCutAnywhere();
+        reassignBehindACut();
         reassignOutOfBounds();
         spoilWeak();
         spoilBad();
@@ -210,6 +213,21 @@ public final class BoundariesTest {
         }
         CHECKS.same("48 defects: capacity", none.format(), 104);
         CHECKS.same("48 defects: writes", none.told(4), 128 + 1 + 6 + 1);
+    }
+
+    private static void formatLeavesOthersAlone() {
+        for (int sector : new int[] {16, 100, 188}) {
+            DefectDrive d = Drives.formatted();
+            int logical = d.logical(sector);
+            d.write(logical, 0, 5);
+            d.write(logical, 1, 6);
+            d.spoil(sector, true);
+            d.cutAfter(176);
+            CHECKS.same("others alone: cut behind all data", d.format(), DefectDrive.OFF);
+            d.start();
+            CHECKS.same("others alone: word 0 of " + sector, d.read(logical, 0), 5);
+            CHECKS.same("others alone: word 1 of " + sector, d.read(logical, 1), 6);
+        }
     }
 
     private static void formatEndsLostWords() {
@@ -513,10 +531,17 @@ public final class BoundariesTest {
         move(d, 140, 157, "nearest: one above");
         move(d, 108, 78, "nearest: two below, three above");
         move(d, 112, 158, "nearest: two above, three below");
-        move(d, 77, 79, "nearest: to the place, where it stays");
-        Drives.spoilSpares(d, 4);
-        move(d, 158, 159, "nearest: to the other place");
-        move(d, 78, 61, "nearest: to the place, not to its own sector");
+    }
+
+    private static void reassignCountsFromThePlace() {
+        DefectDrive d = Drives.formatted();
+        for (int cylinder = 4; cylinder < 8; cylinder++) {
+            Drives.spoilSpares(d, cylinder);
+        }
+        move(d, 96, 141, "from the place: its own sector, in cylinder 6");
+        move(d, 141, 142, "from the place: a spare, in cylinder 8");
+        d.spoil(143, true);
+        move(d, 142, 157, "from the place: cylinder 3 is as near to its own sector, 9 is nearer to its place");
     }
 
     private static void move(DefectDrive d, int place, int due, String what) {
@@ -752,6 +777,31 @@ public final class BoundariesTest {
                 CHECKS.same(what + ": version then", d.told(1), 2);
             }
         }
+    }
+
+    // Promise 6: "lists are written, of the next version, in which it stands for the logical sector's own sector"
+
+    private static void reassignBehindACut() {
+        DefectDrive d = new DefectDrive();
+        d.factory(20);
+        d.factory(21);
+        d.format();
+        d.spoil(16, true);
+        d.cutAfter(175 + 2);
+        CHECKS.same("behind a cut: format", d.format(), DefectDrive.OFF);
+        d.start();
+        move(d, 18, 29, "behind a cut: lists without its entries");
+        CHECKS.primaries("behind a cut", d, 20, 21);
+        CHECKS.pair("behind a cut", d, 0, 18, 29);
+        CHECKS.told("behind a cut", d, 141, 2, 1, 2);
+        d.spoil(29, true);
+        d.cutAfter(3);
+        CHECKS.same("behind a cut: reassign", d.reassign(2), DefectDrive.OFF);
+        d.start();
+        move(d, 19, 30, "behind a cut: lists without its pair");
+        CHECKS.pair("behind a cut: the pair in force", d, 0, 18, 29);
+        CHECKS.pair("behind a cut: the new pair", d, 1, 19, 30);
+        CHECKS.told("behind a cut: again", d, 141, 3, 2, 2);
     }
 
     // Promise 6: "IndexOutOfBounds: there is no such logical sector."
